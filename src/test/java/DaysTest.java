@@ -103,6 +103,10 @@ public final class DaysTest {
         Due.is("to where it was", x.move(2, 3), 10);
         Due.is("to its own site", x.move(2, 3), Due.STATE);
         Due.is("to another's", x.move(2, 18), Due.STATE);
+        Due.is("from 1", x.move(0, 17), 1);
+        Due.is("to 1", x.move(1, 1), 2);
+        x.undo();
+        x.undo();
         Due.is("0", x.move(2, 0), Due.BAD);
         Due.is("19", x.move(2, 19), Due.BAD);
         Due.is("no such tree", x.move(6, 9), Due.BAD);

@@ -40,6 +40,13 @@ public final class ForetoldTest {
         OneBench z = Due.bench(Due.FLAT + "tree hedge 0 15 0;tree oak 10 30 0;tree ash 15 9 0;thing 10 20 show;");
         cutIs(z, 1, 0, 1, 0, 0);
         cutIs(z, 1, 2, 1, 0, 0);
+        // 60 to 20: the line is 56 high at site 1, 24 at site 9.
+        OneBench down = Due.bench("ground 60 0 0 0 0 0 0 0 0 0 0 0 0 0 0 0 0 0 0 0;"
+                + "tree oak 1 70 0;tree oak 9 30 0;thing 10 20 show;");
+        cutIs(down, 1, 0, 1, 15 + 7, 15);
+        // 20 of 3, one third and two thirds: 6 and 13, and more.
+        OneBench thirds = Due.bench(Due.FLAT + "tree oak 1 9 0;tree oak 2 19 0;thing 3 20 show;");
+        cutIs(thirds, 1, 0, 1, 3 + 6, 3);
         OneBench w = Due.bench(Due.FLAT + "tree ash 5 50 0;tree oak 6 50 0;thing 10 20 show;");
         w.winter(1);
         cutIs(w, 1, 0, 1, 39, 0);
@@ -105,6 +112,7 @@ public final class ForetoldTest {
         Due.is("up to 99", Due.bench(high + hide).plant(1 << 30, 0, 9, 99), 1);
         String yews = "tree yew 1 1 0;tree yew 2 1 0;";
         Due.is("99 at most", Due.bench(high + yews + hide).plant(1 << 30, 0, 9, 99), Due.NONE);
+        Due.is("barred from each site, 19 is none", Due.bench(Due.FLAT + "thing 19 1 show;").plant(1, 3, 0, 0), Due.NONE);
         growOn();
     }
 
@@ -161,6 +169,14 @@ public final class ForetoldTest {
         Due.is("cut upwards", third.rival(0, 1), 3);
         Due.is("cut upwards", third.rival(0, 2), 6);
         Due.is("just so", third.rival(0, 3), 9);
+        OneBench first = Due.bench(Due.FLAT + "tree oak 1 1 0;");
+        Due.is("at site 1: 90 eighteenths", first.rival(0, 9), 4);
+        OneBench odd = Due.bench(Due.FLAT + "tree oak 7 1 0;");
+        Due.is("70 eighteenths: 4", odd.rival(0, 1), 3);
+        Due.is("1 eighteenth above 0 is 1", Due.bench("ground 0 0 0 0 0 0 0 0 0 0 0 0 0 0 0 0 0 0 1 0;"
+                + "tree oak 5 1 0;").rival(0, 1), 3);
+        OneBench mound = Due.bench("ground 60 0 0 0 0 0 0 0 0 60 0 0 0 0 0 0 0 0 60 0;tree oak 9 1 0;");
+        Due.is("99 on a mound", mound.rival(0, 9), 44);
         OneBench two = Due.bench(Due.FLAT + "tree oak 9 1 0;tree oak 12 3 0;");
         // 5 or 7 in turn 1: each lacks 4, so the first; in turn 2, 9 lacks 5, 12 lacks 11.
         Due.is("of several the first", two.rival(0, 1), 4);

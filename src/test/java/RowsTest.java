@@ -34,7 +34,11 @@ public final class RowsTest {
         x.set(7, 0, 70000);
         Due.is("items are 0 at first", x.copy(7, 39, 6, 0, 1), 1);
         Due.read(x, Due.FLAT);
-        Due.is("all are 0", x.level(7, 20), 1);
+        x.set(7, 20, 60);
+        x.row(7, 1, 40);
+        Due.is("level", x.level(7, 20), 1);
+        Due.is("the first is 0", x.site(0, 0), 0);
+        Due.is("the last is 0", x.site(19, 0), 0);
         Due.is("status after a success", x.status(), 0);
     }
 

@@ -24,6 +24,16 @@ public final class SightTest {
         Due.is("over a hill, downwards", y.seen(0, 0), 6);
         Due.is("30 and a half", y.seen(0, 1), 7);
         Due.is("an eye stands on the ground", y.seen(4, 0), 7);
+        // From 4 at site 4 to 28 at site 16 the line is 12 high at site 8, 20 at site 12.
+        String from4 = "ground 9 9 9 9 4 0 0 0 0 0 0 0 0 0 0 0 8 0 0 0;";
+        OneBench s = Due.bench(from4 + "tree oak 8 11 0;tree oak 12 19 0;thing 16 20 show;");
+        Due.is("one above both", s.seen(4, 0), 1);
+        OneBench s8 = Due.bench(from4 + "tree oak 8 12 0;tree oak 12 19 0;thing 16 20 show;");
+        Due.is("touching at 8", s8.seen(4, 0), 0);
+        Due.is("over it from eye 1", s8.seen(4, 1), 1);
+        OneBench s12 = Due.bench(from4 + "tree oak 8 11 0;tree oak 12 20 0;thing 16 20 show;");
+        Due.is("touching at 12", s12.seen(4, 0), 0);
+        Due.is("over it from eye 1", s12.seen(4, 1), 1);
         OneBench z = Due.bench(Due.FLAT + "tree ash 5 50 0;tree oak 6 9 0;thing 10 20 show;");
         Due.is("behind an ash", z.seen(0, 0), 0);
         z.winter(1);
@@ -57,6 +67,11 @@ public final class SightTest {
         Due.is("between hedges", hedged.doubled(30), 1);
         Due.is("too low for it", hedged.doubled(8), 0);
         Due.is("seen, though", hedged.seen(0, 8), 1);
+        OneBench up = Due.bench("ground 9 0 0 0 0 0 0 0 0 0 0 0 0 0 0 0 0 0 0 0;lake 2 2;tree oak 1 5 0;thing 3 5 show;");
+        Due.is("from 10 on the ground of site 0 it touches 5 at site 1", up.doubled(1), 0);
+        Due.is("from 11 it is free", up.doubled(2), 1);
+        OneBench wall = Due.bench(Due.FLAT + "lake 2 3;tree oak 1 2 0;thing 5 1 show;");
+        Due.is("seen it is to be from site 0", wall.doubled(2), 0);
         OneBench unseen = Due.bench(Due.FLAT + "lake 9 9;tree hedge 9 99 0;thing 10 10 show;");
         Due.is("not seen, not doubled", unseen.doubled(30), 0);
     }
@@ -88,6 +103,9 @@ public final class SightTest {
         Due.is("nights", x.moon(0), nights);
         Due.is("nights", nights, 0b1111111000000);
         Due.is("all", x.moon(30), 8191);
+        OneBench onHill = Due.bench("ground 19 0 0 0 0 0 0 0 0 0 0 0 0 0 0 0 0 0 0 0;tree oak 10 22 0;");
+        // 9 nineteenths of 19, and 10 of 20 and 3 n, are to be more than 22: from n = 2 on.
+        Due.is("the eye stands on the ground", onHill.moon(0), 8191 & ~3);
         OneBench y = Due.bench("ground 0 0 0 0 0 0 0 0 0 0 0 0 0 0 0 0 0 0 0 60;tree ash 10 99 0;");
         Due.is("none", y.moon(0), 0);
         y.winter(1);

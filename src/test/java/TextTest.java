@@ -6,6 +6,7 @@ public final class TextTest {
         gardens();
         faults();
         kept();
+        anew();
         Due.end("TextTest");
     }
 
@@ -110,6 +111,8 @@ public final class TextTest {
         faultBehind("", "grounds 0", 1);
         faultBehind("", "groun", 1);
         faultBehind("", "Ground", 1);
+        faultBehind("", "xround", 1);
+        faultBehind("", "grounz", 1);
         faultBehind("", "tree", 1);
         faultBehind(" ", "5", 1);
         faultBehind("ground ", "61 x", 2);
@@ -122,6 +125,9 @@ public final class TextTest {
         faultBehind("ground 60 ", ";", 1);
         fault(f.substring(0, f.length() - 1) + " ", f.length(), 1);
         faultBehind(f.substring(0, f.length() - 1) + " ", "0;", 1);
+        faultBehind(f.substring(0, f.length() - 1), "/", 1);
+        faultBehind(f.substring(0, f.length() - 1), "\u003a", 1);
+        faultBehind(f.substring(0, f.length() - 1) + " ", "1234;", 1);
         faultBehind(f, ";", 1);
         faultBehind(f, "ground", 1);
         faultBehind(f + "lake 0 0;", "lake", 1);
@@ -135,6 +141,12 @@ public final class TextTest {
         faultBehind(f + "lake 5 5", "tree", 1);
         faultBehind(f + "tree ", "elm 1 1 1;", 1);
         faultBehind(f + "tree ", "1 1 1;", 1);
+        faultBehind(f + "tree ", "ashz 1 1 1;", 1);
+        faultBehind(f + "tree ", "aash 1 1 1;", 1);
+        faultBehind(f + "tree ash", "{1 1 1;", 1);
+        faultBehind(f + "tree ash", "`1 1 1;", 1);
+        faultBehind(f + "tree ash 1 1 ", "/", 1);
+        faultBehind(f + "tree ash 1 1 ", ":", 1);
         faultBehind(f + "tree ", "ashes 1 1 1;", 1);
         faultBehind(f + "tree ash ", "20 0 10;", 2);
         faultBehind(f + "tree ash 19 ", "0 1;", 2);
@@ -163,6 +175,23 @@ public final class TextTest {
         }
         faultBehind(full.toString(), "thing", 3);
         faultBehind(full.toString(), "tree", 1);
+    }
+
+    /** Nothing of a garden may come back in one that is read later. */
+    private static void anew() {
+        OneBench x = new OneBench();
+        for (int i = 0; i < 4; i++) {
+            String lake = i == 0 ? "lake 1 9;" : "";
+            Due.is("tree", Due.read(x, Due.FLAT + lake + "tree oak 12 9 1;thing 10 30 show;"), 1);
+            Due.is("doubled", x.doubled(9), i == 0 ? 1 : 0);
+            Due.is("year", x.count(3), 0);
+            Due.is("winter", x.count(5), 0);
+            Due.is("cut", x.tree(0, 2), 0);
+            x.years(9);
+            x.clip(0, 3);
+            x.winter(1);
+            Due.read(x, "lake");
+        }
     }
 
     private static void kept() {
