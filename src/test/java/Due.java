@@ -18,6 +18,11 @@ final class Due {
         }
     }
 
+    /** How many answers were compared so far. */
+    static int asked() {
+        return asked;
+    }
+
     /** Feeds a text (characters 0 to 255), eight bytes at a time; what the last feed answered. */
     static int feed(OneBench x, String text) {
         int answer = 0;

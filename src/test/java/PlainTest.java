@@ -75,14 +75,14 @@ public final class PlainTest {
             case 2:
                 return chance.nextInt(20) == 0 ? chance.nextInt() : 1;
             case 3:
-                return x.met(Integer.MAX_VALUE) < 0 ? 1 : x.met(Integer.MAX_VALUE);
+                return plain.met(Integer.MAX_VALUE) < 0 ? 1 : plain.met(Integer.MAX_VALUE);
             default:
                 return (2 << chance.nextInt(6)) - 1;
         }
     }
 
     private int things() {
-        return about(0, Math.max(0, (1 << x.count(2)) - 1));
+        return about(0, Math.max(0, (1 << plain.count(2)) - 1));
     }
 
     private String text() {
@@ -168,7 +168,7 @@ public final class PlainTest {
     private void call(int what) {
         int a = about(0, 7);
         int b = about(0, 7);
-        int tree = about(0, Math.max(0, x.count(1) - 1));
+        int tree = about(0, Math.max(0, plain.count(1) - 1));
         int eye = about(0, 30);
         switch (what) {
             case 0: {
@@ -267,7 +267,7 @@ public final class PlainTest {
             }
             case 17: {
                 int eyes = eyes();
-                int other = about(0, Math.max(0, x.count(1) - 1));
+                int other = about(0, Math.max(0, plain.count(1) - 1));
                 for (int w = 0; w < 2; w++) {
                     due("cut of " + eyes, x.cut(eyes, tree, other, w), plain.cut(eyes, tree, other, w));
                 }
@@ -290,7 +290,7 @@ public final class PlainTest {
                 break;
             }
             case 21: {
-                int things = chance.nextBoolean() ? things() : Math.max(0, x.seen(upTo(18), Math.min(30, Math.max(0, eye))));
+                int things = chance.nextBoolean() ? things() : Math.max(0, plain.seen(upTo(18), Math.min(30, Math.max(0, eye))));
                 due("picture", x.picture(eye, things), plain.picture(eye, things));
                 break;
             }
