@@ -92,6 +92,31 @@ public final class Promises26To33Test {
         Told.is("its winter", x.count(5), 1);
         Told.is("its water", x.doubled(30), twin.doubled(30));
         Told.is("rows stay", x.count(0), 3);
+        anotherIsRestored();
+    }
+
+    /** Two gardens that are unlike in all that is told of them. */
+    private static void anotherIsRestored() {
+        String[] texts = {
+            "ground 1 1 1 1 1 1 1 1 1 1 1 1 1 1 1 1 1 1 1 1;lake 5 5;tree oak 3 9 2;tree false 4 8 0;"
+                + "thing 9 9 hide;thing 12 90 show;",
+            Due.FLAT + "lake 9 12;tree hedge 8 7 3;tree ash 2 6 4;tree yew 6 5 1;thing 13 90 show;thing 10 3 hide;"
+                + "thing 8 80 show;"};
+        for (int k = 0; k < 2; k++) {
+            OneBench x = Due.bench(texts[k]);
+            x.image(k);
+            Due.read(x, texts[1 - k]);
+            x.image(1 - k);
+            Told.isSo("as read", Look.at(x).equals(Look.at(Due.bench(texts[1 - k]))));
+            Told.is("the first", x.restore(k), 1);
+            Told.isSo("as it was", Look.at(x).equals(Look.at(Due.bench(texts[k]))));
+            x.years(5);
+            Told.is("the second", x.restore(1 - k), 1);
+            Told.isSo("as that was", Look.at(x).equals(Look.at(Due.bench(texts[1 - k]))));
+            x.years(5);
+            Told.is("undone", x.undo(), 0);
+            Told.isSo("as that was", Look.at(x).equals(Look.at(Due.bench(texts[1 - k]))));
+        }
     }
 
     private static void restoreBad() {

@@ -259,6 +259,9 @@ public final class Terms1Test {
         Told.is("things", x.count(2), 3);
         Told.is("at 19, twice", x.seen(18, 0), 6);
         Told.is("wants are met", x.met(1), 1);
+        String six = Due.FLAT + "thing 1 1 show;".repeat(5);
+        Told.is("wants of six", Due.bench(six + "thing 1 1 show;").met(1), 1);
+        Told.is("the sixth is to hide", Due.bench(six + "thing 1 1 hide;").met(1), 0);
         Told.is("a hidden one is seen", Due.bench(Due.FLAT + "thing 19 99 hide;").met(1), 0);
         fault(Due.FLAT + "thing ", "20 1 show;", 2);
         fault(Due.FLAT + "thing 1 ", "0 show;", 2);
@@ -301,10 +304,34 @@ public final class Terms1Test {
         Told.is("its winter", x.count(5), 1);
         Told.is("what was cut", x.tree(0, 2), 2);
         Told.is("one that was not kept", x.restore(1), Due.STATE);
+        inPlaceOfEach();
         OneBench lakes = Due.bench(Due.FLAT + "lake 1 18;thing 19 9 show;");
         Told.is("a lake", lakes.doubled(9), 1);
         Due.read(lakes, Due.FLAT + "thing 19 9 show;");
         Told.is("no lake of the one before", lakes.doubled(9), 0);
+    }
+
+    /** Of none of the gardens before, the one before the last too, is anything left. */
+    private static void inPlaceOfEach() {
+        OneBench x = new OneBench();
+        OneBench fresh = new OneBench();
+        String first = "ground 9 9 9 9 9 9 9 9 9 9 9 9 9 9 9 9 9 9 9 9;lake 1 18;tree oak 3 9 2;tree ash 9 60 2;"
+                + "thing 10 9 hide;thing 19 99 show;";
+        String last = Due.FLAT + "tree ash 3 9 2;thing 12 99 show;";
+        for (int again = 0; again < 4; again++) {
+            Due.read(x, first);
+            x.years(9);
+            x.winter(1);
+            x.clip(0, 5);
+            x.clip(1, 7);
+        }
+        Due.read(x, "ground 1");
+        Due.read(fresh, "ground 1");
+        for (int again = 0; again < 3; again++) {
+            Due.read(x, last);
+            Due.read(fresh, last);
+            Told.isSo("all is as in a new object, " + again, Look.at(x).equals(Look.at(fresh)));
+        }
     }
 
     private static void firstFault() {
@@ -396,12 +423,34 @@ public final class Terms1Test {
     }
 
     private static void cannotStand() {
+        // Each letter of each word in turn is another one, a capital, there twice, or missing.
+        for (String sort : SORTS) {
+            wordsLike(Due.FLAT + "tree ", sort);
+        }
+        wordsLike("", "ground");
+        wordsLike(Due.FLAT, "lake");
+        wordsLike(Due.FLAT, "tree");
+        wordsLike(Due.FLAT, "thing");
+        wordsLike(Due.FLAT + "thing 1 1 ", "show");
+        wordsLike(Due.FLAT + "thing 1 1 ", "hide");
         fault("ground ", "1234", 1);
         fault("ground ", "12345678901234567890", 1);
         fault("ground 1", "", 1);
         fault("ground " + "7 ".repeat(19), "0061;", 1);
         fault(Due.FLAT + "tree ash ", "0001 1 1;", 1);
         fault(Due.FLAT + "tree ash 1 1 1", "", 1);
+    }
+
+    private static void wordsLike(String ahead, String word) {
+        for (int i = 0; i < word.length(); i++) {
+            String before = word.substring(0, i);
+            String letter = word.substring(i, i + 1);
+            String behind = word.substring(i + 1);
+            fault(ahead, before + "x" + behind + " 1", 1);
+            fault(ahead, before + letter.toUpperCase() + behind + " 1", 1);
+            fault(ahead, before + letter + letter + behind + " 1", 1);
+            fault(ahead, before + behind + " 1", 1);
+        }
     }
 
     private static void numberNotAsTold() {

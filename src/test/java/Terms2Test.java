@@ -252,6 +252,9 @@ public final class Terms2Test {
         OneBench hidden = Due.bench("ground 0 0 0 0 0 40 0 0 0 0 0 0 0 0 0 0 0 0 0 0;lake 5 5;thing 10 9 show;");
         Told.is("seen over no hill", hidden.seen(0, 30), 0);
         Told.is("so it is not doubled", hidden.doubled(30), 0);
+        OneBench near = Due.bench("ground 0 40 0 0 0 0 0 0 0 0 0 0 0 0 0 0 0 0 0 0;lake 1 1;thing 10 9 show;");
+        Told.is("seen from the water", near.seen(1, 30), 1);
+        Told.is("not seen from site 0, so it is not doubled", near.doubled(30), 0);
         // From eye 20 to the water at site 8 the line is 10 high at site 4; from there to the top 30 of 12, 15 at 10.
         for (int yew = 9; yew <= 10; yew++) {
             for (int oak = 14; oak <= 15; oak++) {

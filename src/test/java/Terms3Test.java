@@ -192,7 +192,11 @@ public final class Terms3Test {
             "tree ash 5 9 0;tree hedge 6 9 0;thing 10 20 hide;",
             "tree ash 12 9 0;tree hedge 6 9 0;thing 10 7 show;",
             "tree ash 0 9 0;tree hedge 10 9 0;thing 10 7 show;",
-            "tree ash 4 9 0;tree hedge 6 9 0;tree yew 8 20 0;thing 10 7 show;"};
+            "tree ash 4 9 0;tree hedge 6 9 0;tree yew 8 20 0;thing 10 7 show;",
+            "tree ash 1 9 0;tree hedge 2 9 0;thing 10 7 show;",
+            "tree ash 18 9 0;tree hedge 17 9 0;thing 19 7 show;",
+            "tree ash 3 9 0;tree hedge 2 9 0;" + "thing 9 4 show;".repeat(5) + "thing 8 3 show;"};
+        String hill = "ground 9 0 0 0 0 0 0 0 0 0 0 0 0 0 0 0 0 0 0 0;";
         int[] eyes = {0, 1, 2, 3, 1 << 8, 1 << 30, 1 | 1 << 30, 9 << 3};
         for (String garden : gardens) {
             for (int set : eyes) {
@@ -204,6 +208,12 @@ public final class Terms3Test {
                     Told.is("x, " + call, x.cut(set, way, 1 - way, 1), least < 0 ? Due.NONE : least % 1000);
                 }
             }
+        }
+        for (String garden : new String[] {gardens[0], gardens[7]}) {
+            int least = leastTried(hill + garden, 2, 0, 1);
+            OneBench x = Due.bench(hill + garden);
+            Told.is("x and y, from a hill, of " + garden, x.cut(2, 0, 1, 0), least / 1000);
+            Told.is("x, from a hill, of " + garden, x.cut(2, 0, 1, 1), least % 1000);
         }
         OneBench all = Due.bench(Due.FLAT + "tree oak 5 99 0;tree ash 6 99 0;thing 10 1 show;");
         Told.is("to 0 each", all.cut(1, 0, 1, 0), 198);
@@ -241,6 +251,12 @@ public final class Terms3Test {
         Told.is("not site 19, not site 0", only19.plant(1, 0, 0, 0), Due.NONE);
         OneBench grown = Due.bench(Due.FLAT + "tree oak 5 2 1;thing 10 20 hide;");
         Told.is("others grow, too: nine years on they hide", grown.plant(1, 3, 0, 9), 1);
+        OneBench lone = Due.bench(Due.FLAT + "tree oak 5 11 1;tree yew 7 2 2;thing 10 20 hide;");
+        Told.is("others alone hide nine years on", lone.plant(1 << 20, 3, 0, 9), 1);
+        Told.is("not eight years on", lone.plant(1 << 20, 3, 0, 8), Due.NONE);
+        lone.years(4);
+        Told.is("five years on from year 4", lone.plant(1 << 20, 3, 0, 5), 1);
+        Told.is("not four", lone.plant(1 << 20, 3, 0, 4), Due.NONE);
         OneBench bare = Due.bench(Due.FLAT + "tree ash 5 20 0;thing 10 20 hide;");
         bare.winter(1);
         Told.is("an ash is seen without winter", bare.plant(1 << 9, 3, 0, 0), 1);
@@ -265,6 +281,15 @@ public final class Terms3Test {
                     Told.is("eye " + eye + ", a yew of " + high + ", ground " + ground, x.moon(eye), due);
                 }
             }
+        }
+        for (int rise = 0; rise <= 60; rise += 5) {
+            // The yew of 29 at site 10: nine nineteenths of the eye and ten of 20 and 3 n are to be more.
+            OneBench risen = Due.bench("ground " + rise + " 0 0 0 0 0 0 0 0 0 0 0 0 0 0 0 0 0 0 0;tree yew 10 29 0;");
+            int due = 0;
+            for (int n = 0; n <= 12; n++) {
+                due |= (rise + 7) * 9 + (20 + 3 * n) * 10 > 29 * 19 ? 1 << n : 0;
+            }
+            Told.is("an eye 7 above ground " + rise, risen.moon(7), due);
         }
         OneBench all = Due.bench(Due.FLAT);
         Told.is("13 nights, no more", all.moon(0), (1 << 13) - 1);
@@ -383,6 +408,9 @@ public final class Terms3Test {
         OneBench like = Due.bench(Due.FLAT + "tree oak 9 1 0;tree oak 10 2 0;");
         Told.is("of like ones the first: 4, of 5 at site 9", like.rival(0, 1), 4);
         Told.is("it is the first that stays so: 5 more, not 6", like.rival(0, 2), 9);
+        OneBench other = Due.bench(Due.FLAT + "tree oak 10 2 0;tree oak 9 1 0;");
+        Told.is("tree 0 is the first, though behind tree 1: 4, of 6 at site 10", other.rival(0, 1), 4);
+        Told.is("it stays so: 6 more, not 5", other.rival(0, 2), 10);
     }
 
     private static void rivalNone() {
@@ -400,6 +428,12 @@ public final class Terms3Test {
         Told.is("99 at most then", Due.bench(far + "tree oak 9 98 0;").rival(18, 6), 1);
         Told.is("not 100", Due.bench(far + "tree oak 9 98 0;").rival(20, 6), Due.NONE);
         Told.is("not in a later turn", Due.bench(far + "tree oak 9 98 0;").rival(18, 7), Due.NONE);
+        // From 90 to 70 and on the line is above 84 at site 5: by a tree on ground 40 its top is above 99 in turn 6.
+        String hill = "ground 60 0 0 0 0 40 0 0 0 0 0 0 0 0 0 0 0 0 60 0;tree oak 5 9 0;";
+        for (int turns = 1; turns <= 9; turns++) {
+            int line = (90 * 13 + (60 + 10 * turns) * 5 + 17) / 18;
+            Told.is("99 is the height, not the top, in turn " + turns, Due.bench(hill).rival(30, turns), line - 49);
+        }
         Told.is("a yew that hides it will do", Due.bench(Due.FLAT + "tree yew 9 50 0;").rival(0, 9), 0);
     }
 
