@@ -109,6 +109,10 @@ public final class Terms1Test {
         fault(Due.FLAT + "tree ", "\u00efak 1 2 3;", 1);
         fault(Due.FLAT + "thing 1 2 ", "shows;", 1);
         fault(Due.FLAT, "treeoak 1 2 3;", 1);
+        for (char letter = 'a'; letter <= 'z'; letter++) {
+            fault("", "ground" + letter + " 0", 1);
+            fault("", letter + "ground 0", 1);
+        }
     }
 
     private static void numbers() {
@@ -439,6 +443,22 @@ public final class Terms1Test {
         fault("ground " + "7 ".repeat(19), "0061;", 1);
         fault(Due.FLAT + "tree ash ", "0001 1 1;", 1);
         fault(Due.FLAT + "tree ash 1 1 1", "", 1);
+        // The end is where the tape's bytes end, whatever stood behind them on one before.
+        for (String before : new String[] {"7", "z", " ", ";"}) {
+            for (String cut : new String[] {"", "gr", "ground", "ground 1", "ground 1 ", "ground 123", Due.FLAT + "tree"}) {
+                OneBench fresh = new OneBench();
+                OneBench x = new OneBench();
+                Due.read(x, before.repeat(400));
+                Told.is("garden of " + cut + ", behind many " + before, Due.read(x, cut), Due.read(fresh, cut));
+                Told.is("fault of it", x.fault(), fresh.fault());
+            }
+        }
+        for (String last : new String[] {"1", "12", "1 ", "1;tree", "1;;"}) {
+            String text = Due.FLAT + "tree ash 1 1 ";
+            String full = text + " ".repeat(400 - text.length() - last.length()) + last;
+            int end = last.equals("12") ? 398 : last.endsWith(";;") ? 399 : 400;
+            fault(full.substring(0, end), full.substring(end), last.equals("12") ? 2 : 1);
+        }
     }
 
     private static void wordsLike(String ahead, String word) {
